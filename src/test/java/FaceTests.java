@@ -1,0 +1,124 @@
+import java.io.IOException;
+import java.lang.reflect.Constructor;
+import java.lang.reflect.Field;
+import java.lang.reflect.Method;
+import java.lang.reflect.Modifier;
+import java.nio.file.Files;
+import java.nio.file.Path;
+import java.util.ArrayList;
+import java.util.List;
+import java.util.Set;
+import java.util.TreeSet;
+import java.util.regex.Matcher;
+import java.util.regex.Pattern;
+
+/** The face is the document's and no more, and the source keeps to those rules of LANGUAGE.md that can be seen. */
+public final class FaceTests {
+    private static final Due DUE = new Due();
+    private static final Set<String> FACE = Set.of(
+        "int jug(int,int)", "int set(int,boolean)", "int put(int,int)", "int holds(int)", "int act(int)",
+        "int clear()", "int fewest(int,int)", "long rows(int,int)", "int best(int,int,int)",
+        "int sparing(int,int,int)", "int spare(int,int,int)", "int makes()", "int reaches()", "int road(int,int)",
+        "int sizes(int,int,int)", "int glass(int)", "int smash()", "int await(int)", "int turns(int)",
+        "long spans(int)", "int count(int)");
+
+    public static void main(String[] args) throws IOException {
+        face();
+        insideClasses();
+        source(Files.readString(Path.of(System.getProperty("jug.main", "src/main/java/JugsAndGlasses.java"))));
+        DUE.end();
+    }
+
+    private static String sign(Method m) {
+        StringBuilder sign = new StringBuilder(m.getReturnType().getName() + " " + m.getName() + "(");
+        for (int i = 0; i < m.getParameterCount(); i++) {
+            sign.append(i == 0 ? "" : ",").append(m.getParameterTypes()[i].getName());
+        }
+        return sign.append(")").toString();
+    }
+
+    private static void face() {
+        Class<?> c = JugsAndGlasses.class;
+        DUE.holds("public and final", Modifier.isPublic(c.getModifiers()) && Modifier.isFinal(c.getModifiers()));
+        Set<String> found = new TreeSet<>();
+        for (Method m : c.getDeclaredMethods()) {
+            if (Modifier.isPrivate(m.getModifiers()) || m.isSynthetic()) {
+                continue;
+            }
+            found.add(sign(m));
+            DUE.holds(m + " is public, throws nothing and is no static method",
+                Modifier.isPublic(m.getModifiers()) && !Modifier.isStatic(m.getModifiers())
+                    && m.getExceptionTypes().length == 0);
+        }
+        DUE.holds("the methods are the document's: " + found, found.equals(new TreeSet<>(FACE)));
+        Set<String> constants = new TreeSet<>();
+        for (Field f : c.getDeclaredFields()) {
+            if (!Modifier.isPrivate(f.getModifiers())) {
+                constants.add(f.getName());
+                DUE.holds(f + " is a constant", f.getModifiers() == (Modifier.PUBLIC | Modifier.STATIC | Modifier.FINAL)
+                    && f.getType() == int.class);
+            }
+        }
+        DUE.holds("the constants are the document's: " + constants,
+            constants.equals(new TreeSet<>(Set.of("NONE", "BAD", "NOT", "FULL"))));
+        Constructor<?>[] makers = c.getDeclaredConstructors();
+        DUE.holds("one public constructor", makers.length == 1 && Modifier.isPublic(makers[0].getModifiers())
+            && makers[0].getParameterCount() == 0);
+    }
+
+    private static void insideClasses() {
+        List<Class<?>> all = new ArrayList<>(List.of(JugsAndGlasses.class.getDeclaredClasses()));
+        DUE.holds("at most twelve classes", all.size() < 12);
+        Set<String> names = new TreeSet<>();
+        for (String sign : FACE) {
+            names.add(sign.substring(sign.indexOf(' ') + 1, sign.indexOf('(')));
+        }
+        for (Class<?> inside : all) {
+            DUE.holds(inside + " is static", Modifier.isStatic(inside.getModifiers()));
+            int fields = 0;
+            for (Field f : inside.getDeclaredFields()) {
+                boolean fixed = Modifier.isStatic(f.getModifiers());
+                DUE.holds(f + " is final if it is static", !fixed || Modifier.isFinal(f.getModifiers()));
+                fields += fixed ? 0 : 1;
+            }
+            DUE.holds(inside + " has at most twenty fields", fields <= 20);
+            for (Method m : inside.getDeclaredMethods()) {
+                DUE.holds(m + " bears no name of the face", !names.contains(m.getName()));
+                DUE.holds(m + " takes at most seven", m.getParameterCount() <= 7);
+            }
+        }
+    }
+
+    private static void source(String text) {
+        String code = text.replaceAll("(?s)/\\*.*?\\*/", "").replaceAll("//[^\n]*", "");
+        String[] barred = {"throw", "throws", "try", "catch", "synchronized", "assert", "package", "var", "goto",
+            "System", "Object", "Random", "Thread", "hashCode", "equals", "toString", "native", "volatile"};
+        for (String word : barred) {
+            DUE.holds("no " + word, !Pattern.compile("\\b" + word + "\\b").matcher(code).find());
+        }
+        DUE.holds("no lambda, no method reference", !code.contains("->") && !code.contains("::"));
+        DUE.holds("no name that ends in Exact", !code.contains("Exact"));
+        for (Matcher m = Pattern.compile("import ([^;]*);").matcher(code); m.find(); ) {
+            DUE.holds("import " + m.group(1), m.group(1).equals("java.util.Arrays"));
+        }
+        DUE.holds("signs 0 to 127", text.chars().allMatch(sign -> sign < 128));
+        shortMethods(code);
+    }
+
+    /** A method begins at a line that ends with ") {" at the depth of a class's members. */
+    private static void shortMethods(String code) {
+        String[] lines = code.split("\n");
+        for (int k = 0; k < lines.length; k++) {
+            Matcher m = Pattern.compile("^(    |        )(public|private|int|long|void|boolean|[A-Z]\\w*)\\b.*\\) \\{$")
+                .matcher(lines[k]);
+            if (!m.find()) {
+                continue;
+            }
+            int end = k;
+            while (end < lines.length - 1 && !lines[end].equals(m.group(1) + "}")) {
+                end++;
+            }
+            DUE.holds(lines[k].trim() + " is short", end - k < 60);
+        }
+    }
+}
