@@ -16,33 +16,20 @@ public final class JugsAndGlasses {
 
     /** Which JUG an ACT takes from, and which it brings to; NONE: from the TAP, down the DRAIN. */
     private static final int[] GIVER = {
-        NONE, NONE, NONE, NONE, 0, 1, 2, 3, 0, 0, 0, 0, 1, 1, 1, 1, 2, 2, 2, 2, 3, 3, 3, 3};
+        -1, -1, -1, -1, 0, 1, 2, 3, 0, 0, 0, 0, 1, 1, 1, 1, 2, 2, 2, 2, 3, 3, 3, 3};
     private static final int[] TAKER = {
-        0, 1, 2, 3, NONE, NONE, NONE, NONE, 0, 1, 2, 3, 0, 1, 2, 3, 0, 1, 2, 3, 0, 1, 2, 3};
+        0, 1, 2, 3, -1, -1, -1, -1, 0, 1, 2, 3, 0, 1, 2, 3, 0, 1, 2, 3, 0, 1, 2, 3};
 
-    /*
-     * What all JUGS hold is one number, its CODE: a digit of base 11 for each JUG.
-     * CODES has how many there are of so many JUGS, SHIFT by how much one unit that an ACT moves
-     * changes the CODE.
-     */
-    private static final int BASE = 11;
-    private static final int[] CODES = {1, 11, 121, 1331, 14641};
-    private static final int[] DIGIT = {1, 11, 121, 1331};
-    private static final int[] SHIFT = {
-        1, 11, 121, 1331,
-        -1, -11, -121, -1331,
-        0, 11 - 1, 121 - 1, 1331 - 1,
-        1 - 11, 0, 121 - 11, 1331 - 11,
-        1 - 121, 11 - 121, 0, 1331 - 121,
-        1 - 1331, 11 - 1331, 121 - 1331, 0};
+    /** How many ways there are for four JUGS of 10 to hold, and for two. */
+    private static final int MOST_CODES = 14641, MOST_CODES_OF_TWO = 121;
 
     private final Jugs jugs;
     private final Search search;
     private final Glasses glasses;
 
     public JugsAndGlasses() {
-        jugs = new Jugs();
-        search = new Search(jugs);
+        search = new Search();
+        jugs = search.jugs;
         glasses = new Glasses();
     }
 
@@ -93,17 +80,14 @@ public final class JugsAndGlasses {
         if (units == 0) {
             return NOT;
         }
-        jugs.stand(jugs.code() + jugs.shiftBy(a));
+        jugs.move(a, units);
         search.forget();
         return units;
     }
 
     public int clear() {
-        int were = jugs.number;
-        jugs.number = 0;
-        jugs.stand(0);
         search.forget();
-        return were;
+        return jugs.removeAll();
     }
 
     public int fewest(int i, int v) {
@@ -249,8 +233,8 @@ public final class JugsAndGlasses {
     private static int actsOfRoad(int size, int otherSize, int v) {
         int held = 0;
         int other = 0;
-        // No way to hold comes twice on the ROAD, so it is shorter than there are CODES of two JUGS.
-        for (int done = 1; done <= CODES[2]; done++) {
+        // No way to hold comes twice on the ROAD, so it has no more ACTS than there are such ways.
+        for (int done = 1; done <= MOST_CODES_OF_TWO; done++) {
             if (other == otherSize) {
                 other = 0;
             } else if (held == 0) {
@@ -270,13 +254,24 @@ public final class JugsAndGlasses {
         return NONE;
     }
 
-    /** JUGS and what they hold: the true ones, and those that a search tries ACTS on. */
+    /** How long rows for so many CODES are made: twice as long as before, so that they are seldom made. */
+    private static int lengthFor(int codes, int before) {
+        return Math.min(MOST_CODES, Math.max(codes, 2 * before));
+    }
+
+    /**
+     * JUGS and what they hold: the true ones, and those that a search tries ACTS on. What all hold is
+     * one number, its CODE: a digit for each JUG, of base SIZE + 1; a unit in a JUG weighs as much as
+     * there are CODES of the JUGS ahead of it.
+     */
     private static final class Jugs {
         int number = 0;
+        int codes = 1;
         boolean tap = true;
         boolean drain = true;
         final int[] size = new int[MOST_JUGS];
         final int[] held = new int[MOST_JUGS];
+        private final int[] weight = new int[MOST_JUGS];
 
         boolean has(int i) {
             return i >= 0 && i < number && i < MOST_JUGS;
@@ -288,17 +283,28 @@ public final class JugsAndGlasses {
             }
             size[number] = newSize;
             held[number] = newHeld;
+            weight[number] = codes;
+            codes *= newSize + 1;
             number++;
             return number - 1;
         }
 
+        int removeAll() {
+            int were = number;
+            number = 0;
+            codes = 1;
+            return were;
+        }
+
         void liken(Jugs other) {
             number = other.number;
+            codes = other.codes;
             tap = other.tap;
             drain = other.drain;
             for (int i = 0; i < MOST_JUGS; i++) {
                 size[i] = other.size[i];
                 held[i] = other.held[i];
+                weight[i] = other.weight[i];
             }
         }
 
@@ -322,33 +328,52 @@ public final class JugsAndGlasses {
             return there < room ? there : room;
         }
 
-        /** How many units an ACT spills, if it can be done now. */
-        int spiltBy(int a) {
-            if (a < 0 || a >= ACTS || TAKER[a] >= 0 || GIVER[a] < 0) {
-                return 0;
+        /** An ACT that can be done now moves its units. */
+        void move(int a, int units) {
+            if (!haveAct(a)) {
+                return;
             }
-            return held[GIVER[a]];
-        }
-
-        int code() {
-            int code = 0;
-            for (int i = 0; i < MOST_JUGS; i++) {
-                code += held[i] * DIGIT[i];
+            if (GIVER[a] >= 0) {
+                held[GIVER[a]] -= units;
             }
-            return code;
+            if (TAKER[a] >= 0) {
+                held[TAKER[a]] += units;
+            }
         }
 
         /** By how much an ACT changes the CODE; 0: it cannot be done. */
         int shiftBy(int a) {
-            return a >= 0 && a < ACTS ? moved(a) * SHIFT[a] : 0;
+            int units = moved(a);
+            if (units == 0) {
+                return 0;
+            }
+            int gone = GIVER[a] >= 0 ? weight[GIVER[a]] : 0;
+            int come = TAKER[a] >= 0 ? weight[TAKER[a]] : 0;
+            return units * (come - gone);
+        }
+
+        /** How many units an ACT spills, if it can be done now. */
+        int spiltBy(int a) {
+            return a >= 0 && a < ACTS && TAKER[a] < 0 && GIVER[a] >= 0 ? held[GIVER[a]] : 0;
+        }
+
+        int code() {
+            int code = 0;
+            for (int i = 0; i < number && i < MOST_JUGS; i++) {
+                code += held[i] * weight[i];
+            }
+            return code;
         }
 
         /** The JUGS hold from now on what a CODE says. */
         void stand(int code) {
             int rest = code;
-            for (int i = 0; i < MOST_JUGS; i++) {
-                held[i] = rest % BASE;
-                rest /= BASE;
+            for (int i = 0; i < number && i < MOST_JUGS; i++) {
+                int base = size[i] + 1;
+                if (base > 1) {
+                    held[i] = rest % base;
+                    rest /= base;
+                }
             }
         }
 
@@ -389,22 +414,23 @@ public final class JugsAndGlasses {
      * ROWS, and the ACT that found a CODE is the last one of its first ROW.
      */
     private static final class Tour {
+        private static final int ACT_ROOM = 32;
         int[] found = new int[0];
         int[] level = new int[0];
-        int[] finder = new int[0];
-        byte[] finding = new byte[0];
+        /** The CODE from which each was found, times ACT_ROOM, and the ACT by which it was. */
+        private int[] cause = new int[0];
         int reached = 0;
 
         boolean knows(int code) {
             return code >= 0 && code < level.length && level[code] >= 0;
         }
 
-        void start(int codes, int code) {
+        private void start(int codes, int code) {
             if (level.length < codes) {
-                found = new int[codes];
-                level = new int[codes];
-                finder = new int[codes];
-                finding = new byte[codes];
+                int length = lengthFor(codes, level.length);
+                found = new int[length];
+                level = new int[length];
+                cause = new int[length];
             }
             Arrays.fill(level, NONE);
             reached = 0;
@@ -417,7 +443,7 @@ public final class JugsAndGlasses {
 
         /** Goes everywhere from where the JUGS stand; with a spilling, only by what is spilt least. */
         void explore(Jugs trial, Spilling spilling) {
-            start(CODES[trial.number], trial.code());
+            start(trial.codes, trial.code());
             for (int k = 0; k < reached && k < found.length; k++) {
                 int code = found[k];
                 trial.stand(code);
@@ -440,8 +466,7 @@ public final class JugsAndGlasses {
             found[reached] = to;
             reached++;
             level[to] = level[from] + 1;
-            finder[to] = from;
-            finding[to] = (byte) a;
+            cause[to] = from * ACT_ROOM + a;
         }
 
         int acts(int code) {
@@ -455,17 +480,17 @@ public final class JugsAndGlasses {
             }
             int at = code;
             for (int k = level[code] - 1; k > n && knows(at); k--) {
-                at = finder[at];
+                at = cause[at] / ACT_ROOM;
             }
-            return knows(at) ? finding[at] : NONE;
+            return knows(at) ? cause[at] % ACT_ROOM : NONE;
         }
     }
 
     /** The least that ROWS spill on their way to each CODE. */
     private static final class Spilling {
         private static final int UNTOLD = 1000000;
-        int[] least = new int[0];
-        int[] work = new int[0];
+        private int[] least = new int[0];
+        private int[] work = new int[0];
 
         void measure(Jugs trial, Tour all) {
             if (least.length < all.level.length) {
@@ -524,19 +549,15 @@ public final class JugsAndGlasses {
 
     /** What can be made of the JUGS as they are, worked out once and kept until they change. */
     private static final class Search {
-        final Jugs jugs;
-        final Jugs trial = new Jugs();
+        final Jugs jugs = new Jugs();
+        private final Jugs trial = new Jugs();
         final Tour all = new Tour();
         final Tour thrifty = new Tour();
         final Spilling spilling = new Spilling();
-        long[] ways = new long[0];
-        boolean explored = false;
-        boolean counted = false;
-        boolean exploredSparing = false;
-
-        Search(Jugs jugs) {
-            this.jugs = jugs;
-        }
+        private long[] ways = new long[0];
+        private boolean explored = false;
+        private boolean counted = false;
+        private boolean exploredSparing = false;
 
         void forget() {
             explored = false;
