@@ -14,6 +14,9 @@ public final class ModelTests {
         for (int run = 1000; run < 1006; run++) {
             mixedRun(run, 40, 10, 60);
         }
+        for (int run = 2000; run < 2040; run++) {
+            mixedRun(run, 6, 3, 60);
+        }
         DUE.end();
     }
 
@@ -68,7 +71,7 @@ public final class ModelTests {
             }
         }
         int[][] threes = {{12, 12, 12}, {12, 11, 10}, {11, 7, 5}, {12, 9, 6}, {1, 2, 3}, {12, 11, 7}, {5, 8, 12},
-            {10, 10, 3}, {12, 7, 12}, {9, 8, 7}, {1, 1, 12}, {2, 12, 4}};
+            {10, 10, 3}, {12, 7, 12}, {9, 8, 7}, {1, 1, 12}, {2, 12, 4}, {3, 8, 10}, {7, 7, 9}, {7, 9, 11}};
         for (int[] three : threes) {
             compareGlasses(three[0], three[1], three[2]);
         }
@@ -99,7 +102,7 @@ public final class ModelTests {
         Random chance = new Random(seed);
         JugsAndGlasses x = new JugsAndGlasses();
         Model m = new Model();
-        int jugs = chance.nextInt(seed < 1000 ? 4 : 5);
+        int jugs = seed < 1000 ? chance.nextInt(4) : seed < 2000 ? chance.nextInt(5) : 4;
         for (int k = 0; k < jugs; k++) {
             int size = 1 + chance.nextInt(mostSize);
             int holds = chance.nextInt(3) == 0 ? chance.nextInt(size + 1) : 0;

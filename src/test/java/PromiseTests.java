@@ -194,6 +194,35 @@ public final class PromiseTests {
         DUE.is("6: pour 3 to 3", four.act(23), BAD);
         DUE.is("6: empty 3", four.act(7), 7);
         DUE.is("6: no jugs", new JugsAndGlasses().act(0), BAD);
+        for (int i = 0; i < 4; i++) {
+            everyActOf(i);
+        }
+    }
+
+    /** Jugs of 10, 9, 8, 7 that hold 1, 2, 3, 4: no two acts do the same. */
+    private static void everyActOf(int i) {
+        actIs(i, 10 - i - (i + 1), -1, i);
+        actIs(4 + i, i + 1, i, -1);
+        for (int j = 0; j < 4; j++) {
+            int a = 8 + 4 * i + j;
+            if (i == j) {
+                actIs(a, BAD, -1, -1);
+            } else {
+                actIs(a, Math.min(i + 1, 10 - j - (j + 1)), i, j);
+            }
+        }
+    }
+
+    private static void actIs(int a, int units, int from, int to) {
+        JugsAndGlasses x = new JugsAndGlasses();
+        for (int k = 0; k < 4; k++) {
+            DUE.is("6: jug", x.jug(10 - k, k + 1), k);
+        }
+        DUE.is("6: of four jugs, act(" + a + ")", x.act(a), units);
+        for (int k = 0; k < 4; k++) {
+            int due = k + 1 - (k == from ? units : 0) + (k == to ? units : 0);
+            DUE.is("6: behind act(" + a + "), holds(" + k + ")", x.holds(k), due);
+        }
     }
 
     private static void promise7Clear() {
@@ -279,6 +308,13 @@ public final class PromiseTests {
         DUE.is("11: fewest", x.fewest(0, 0), 1);
         DUE.is("11: less with more acts", x.sparing(0, 0, 0), 2);
         DUE.is("11: more acts with less", x.sparing(0, 0, 1), 2);
+        JugsAndGlasses one = jugs(5);
+        DUE.is("11: put", one.put(0, 3), 0);
+        DUE.is("11: one jug can only be emptied", one.sparing(0, 0, 0), 3);
+        DUE.is("11: in one act", one.sparing(0, 0, 1), 1);
+        DUE.is("11: by filling nothing is spilt", one.sparing(0, 5, 0), 0);
+        DUE.is("11: no drain", one.set(1, false), 1);
+        DUE.is("11: then it cannot be made", one.sparing(0, 0, 0), NONE);
     }
 
     private static void promise12Spare() {
@@ -425,6 +461,8 @@ public final class PromiseTests {
         DUE.is("20: 41", x.turns(41), BAD);
         DUE.is("20: one glass, not a multiple", glasses(4).turns(6), NONE);
         DUE.is("20: forty times", glasses(1).turns(40), 40);
+        DUE.is("20: the fewest of several ways to the same wait", glasses(3, 8, 10).turns(1), 4);
+        DUE.is("20: that wait", glasses(3, 8, 10).await(1), 8);
     }
 
     private static void promise21Spans() {
@@ -458,5 +496,11 @@ public final class PromiseTests {
         DUE.is("22: without filling", x.count(3), 4);
         DUE.is("22: no drain", x.set(1, false), 1);
         DUE.is("22: pouring alone", x.count(3), 2);
+        JugsAndGlasses four = jugs(4, 4, 4, 4);
+        for (int i = 0; i < 4; i++) {
+            DUE.is("22: put", four.put(i, i + 1), 0);
+        }
+        DUE.is("22: of four, one full: 3 fill, 4 empty, 9 pour", four.count(3), 16);
+        DUE.is("22: of four, held", four.count(2), 10);
     }
 }
