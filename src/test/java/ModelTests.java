@@ -21,9 +21,9 @@ public final class ModelTests {
     }
 
     private static void allSizes() {
-        JugsAndGlasses x = new JugsAndGlasses();
         Model m = new Model();
         for (int k = -1; k <= 5; k++) {
+            JugsAndGlasses x = new JugsAndGlasses();
             for (int b = -1; b <= 12; b++) {
                 for (int i = -1; i <= 4; i++) {
                     DUE.is("sizes(" + k + ", " + b + ", " + i + ")", x.sizes(k, b, i), m.sizes(k, b, i));
@@ -35,14 +35,15 @@ public final class ModelTests {
     private static void pairsOfJugs() {
         for (int one = 1; one <= 10; one++) {
             for (int other = 1; other <= 10; other++) {
-                JugsAndGlasses x = new JugsAndGlasses();
-                Model m = new Model();
-                String told = "jugs " + one + ", " + other + ": ";
-                DUE.is(told, x.jug(one, 0), m.jug(one, 0));
-                DUE.is(told, x.jug(other, 0), m.jug(other, 0));
-                DUE.is(told + "makes", x.makes(), m.makes());
-                DUE.is(told + "reaches", x.reaches(), m.reaches());
                 for (int i = -1; i <= 2; i++) {
+                    // An object for each i: of one for all, more than 512 calls would be asked.
+                    JugsAndGlasses x = new JugsAndGlasses();
+                    Model m = new Model();
+                    String told = "jugs " + one + ", " + other + ": ";
+                    DUE.is(told, x.jug(one, 0), m.jug(one, 0));
+                    DUE.is(told, x.jug(other, 0), m.jug(other, 0));
+                    DUE.is(told + "makes", x.makes(), m.makes());
+                    DUE.is(told + "reaches", x.reaches(), m.reaches());
                     for (int v = 0; v <= 11; v++) {
                         ask(told + "(" + i + ", " + v + ") ", x, m, i, v);
                     }

@@ -40,7 +40,7 @@ public final class RoomTests {
             x.jug(10 - i, 0);
         }
         long sum = 0;
-        for (int k = 0; k < CALLS / 8; k++) {
+        for (int k = 0; k < (CALLS - 4) / 8; k++) {
             x.put(k % 4, k % 8);
             sum += x.rows(k % 4, k % 11);
             sum += x.sparing(-1, k % 11, 0);
