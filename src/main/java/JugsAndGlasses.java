@@ -513,7 +513,7 @@ public final class JugsAndGlasses {
             int waiting = 0;
             for (int k = 0; k < all.reached && k < work.length; k++) {
                 int code = all.found[k];
-                if (least[code] == spilt) {
+                if (leastFor(code) == spilt) {
                     work[waiting] = code;
                     waiting++;
                 }
@@ -599,11 +599,12 @@ public final class JugsAndGlasses {
             }
             for (int k = 0; k < all.reached && k < all.found.length; k++) {
                 int code = all.found[k];
+                int next = all.acts(code) + 1;
                 trial.stand(code);
                 for (int a = 0; a < ACTS; a++) {
                     int to = code + trial.shiftBy(a);
-                    if (all.knows(to) && all.level[to] == all.level[code] + 1) {
-                        ways[to] = Math.min(MOST_ROWS, ways[to] + ways[code]);
+                    if (to >= 0 && to < ways.length && all.acts(to) == next) {
+                        ways[to] = Math.min(MOST_ROWS, ways[to] + waysFor(code));
                     }
                 }
             }
@@ -634,14 +635,18 @@ public final class JugsAndGlasses {
             return best;
         }
 
+        private long waysFor(int code) {
+            return code >= 0 && code < ways.length ? ways[code] : 0L;
+        }
+
         long waysTo(int i, int v) {
             int fewestActs = all.acts(nearest(i, v));
             long sum = 0;
             for (int k = 0; k < all.reached && k < all.found.length; k++) {
                 int code = all.found[k];
                 trial.stand(code);
-                if (all.level[code] == fewestActs && trial.meet(i, v)) {
-                    sum = Math.min(MOST_ROWS, sum + ways[code]);
+                if (all.acts(code) == fewestActs && trial.meet(i, v)) {
+                    sum = Math.min(MOST_ROWS, sum + waysFor(code));
                 }
             }
             return sum;

@@ -2,8 +2,9 @@ import java.util.ArrayList;
 import java.util.List;
 
 /**
- * Behind a refused call, and behind a question, all answers are as they were. Objects are made by the
- * same calls twice; one is refused something, and then both are asked for everything.
+ * Behind a refused call, and behind a question, all answers are as they were; behind a change, they are
+ * the same whether questions were asked ahead of it or not. Objects are made by the same calls twice;
+ * one is refused or asked something, and then both are asked for everything.
  */
 public final class RefusalTests {
     private static final Due DUE = new Due();
@@ -29,6 +30,7 @@ public final class RefusalTests {
         for (int maker = 0; maker < MAKERS.length; maker++) {
             refusedChanges(maker);
             questions(maker);
+            changesBehindQuestions(maker);
             last(maker);
         }
         DUE.end();
@@ -131,6 +133,28 @@ public final class RefusalTests {
             }
         }
         compare("object " + maker + ", behind the last questions", all(x, 25), before);
+    }
+
+    /** Each call that changes something, with questions ahead of it and without. */
+    private static void changesBehindQuestions(int maker) {
+        int changes = 0;
+        for (int promise : new int[] {2, 3, 4, 6, 7, 17, 18}) {
+            for (int[] call : tries(promise)) {
+                long due = Calls.ask(model(maker), call);
+                if (isRefusal(due)) {
+                    continue;
+                }
+                changes++;
+                JugsAndGlasses asked = make(maker);
+                warmUp(asked);
+                JugsAndGlasses unasked = make(maker);
+                String told = "object " + maker + ", " + Calls.told(call);
+                DUE.is(told + " behind questions", Calls.ask(asked, call), due);
+                DUE.is(told, Calls.ask(unasked, call), due);
+                compare(told + " is seen", all(asked, 6), all(unasked, 1));
+            }
+        }
+        DUE.holds("there were changes", changes > 5);
     }
 
     /** Refused calls up to the 511th; the 512th is answered as ever. */
