@@ -442,7 +442,7 @@ public final class JugsAndGlasses {
         }
 
         /** Goes everywhere from where the JUGS stand; with a spilling, only by what is spilt least. */
-        void explore(Jugs trial, Spilling spilling) {
+        void walk(Jugs trial, Spilling spilling) {
             start(trial.codes, trial.code());
             for (int k = 0; k < reached && k < found.length; k++) {
                 int code = found[k];
@@ -460,7 +460,7 @@ public final class JugsAndGlasses {
         }
 
         private void enter(int from, int a, int to) {
-            if (reached >= found.length) {
+            if (reached >= found.length || !knows(from) || to < 0 || to >= level.length) {
                 return;
             }
             found[reached] = to;
@@ -568,7 +568,7 @@ public final class JugsAndGlasses {
         void explore() {
             if (!explored) {
                 trial.liken(jugs);
-                all.explore(trial, null);
+                all.walk(trial, null);
                 explored = true;
             }
         }
@@ -579,7 +579,7 @@ public final class JugsAndGlasses {
                 trial.liken(jugs);
                 spilling.measure(trial, all);
                 trial.liken(jugs);
-                thrifty.explore(trial, spilling);
+                thrifty.walk(trial, spilling);
                 exploredSparing = true;
             }
         }
@@ -689,8 +689,8 @@ public final class JugsAndGlasses {
         /** By STATE: the least TIME at which it comes, and the fewest turned until then. */
         private int[] early = new int[0];
         private int[] turned = new int[0];
-        /** By span (the last few) and STATE: the fewest turned so that an EVENT comes just then. */
-        private int[][] ahead = new int[RING][0];
+        /** By STATE and span (the last few): the fewest turned so that an EVENT comes just then. */
+        private int[] ahead = new int[0];
 
         int add(int newSpan) {
             if (number >= MOST_GLASSES) {
@@ -713,6 +713,9 @@ public final class JugsAndGlasses {
             if (known) {
                 return;
             }
+            if (number < 0 || number >= STATES.length) {
+                return;
+            }
             makeRoom(STATES[number]);
             listEvents();
             goForth();
@@ -730,7 +733,7 @@ public final class JugsAndGlasses {
                 leap = new int[states * CHOICES];
                 early = new int[states];
                 turned = new int[states];
-                ahead = new int[RING][states];
+                ahead = new int[states * RING];
             }
             for (int k = 0; k < listed.length; k++) {
                 listed[k] = false;
@@ -743,8 +746,11 @@ public final class JugsAndGlasses {
             for (int k = 0; k < listedEvents && k < events.length; k++) {
                 int state = events[k];
                 for (int choice = 0; choice < 1 << number; choice++) {
+                    int at = state * CHOICES + choice;
                     int next = leapFrom(state, choice);
-                    leap[state * CHOICES + choice] = next;
+                    if (at >= 0 && at < leap.length) {
+                        leap[at] = next;
+                    }
                     if (next != NONE) {
                         list(next / MOMENTS);
                     }
@@ -779,6 +785,12 @@ public final class JugsAndGlasses {
             return next * MOMENTS + first;
         }
 
+        /** The same, as it was kept. */
+        private int leapBy(int state, int choice) {
+            int at = state * CHOICES + choice;
+            return at >= 0 && at < leap.length ? leap[at] : NONE;
+        }
+
         /** What is ABOVE in a GLASS when the chosen ones have been turned. */
         private int sandAbove(int state, int choice, int g) {
             int rest = state;
@@ -793,11 +805,10 @@ public final class JugsAndGlasses {
         private void goForth() {
             Arrays.fill(early, FAR);
             Arrays.fill(turned, FAR);
-            early[0] = 0;
-            turned[0] = 0;
+            comeTo(0, 0, 0);
             for (int time = 0; time <= LATEST_WAIT; time++) {
                 for (int k = 0; k < listedEvents && k < events.length; k++) {
-                    if (early[events[k]] == time) {
+                    if (earlyAt(events[k]) == time) {
                         goOnFrom(events[k], time);
                     }
                 }
@@ -805,36 +816,61 @@ public final class JugsAndGlasses {
         }
 
         private void goOnFrom(int state, int time) {
+            int before = turnedAt(state);
             for (int choice = 0; choice < 1 << number; choice++) {
-                int next = leap[state * CHOICES + choice];
-                if (next == NONE) {
-                    continue;
-                }
-                int to = next / MOMENTS;
-                int then = time + next % MOMENTS;
-                int sum = turned[state] + Integer.bitCount(choice);
-                if (then < early[to] || then == early[to] && sum < turned[to]) {
-                    early[to] = then;
-                    turned[to] = sum;
+                int next = leapBy(state, choice);
+                if (next != NONE) {
+                    comeTo(next / MOMENTS, time + next % MOMENTS, before + Integer.bitCount(choice));
                 }
             }
         }
 
+        private void comeTo(int state, int time, int sum) {
+            if (state < 0 || state >= early.length || state >= turned.length) {
+                return;
+            }
+            if (time < early[state] || time == early[state] && sum < turned[state]) {
+                early[state] = time;
+                turned[state] = sum;
+            }
+        }
+
+        private int earlyAt(int state) {
+            return state >= 0 && state < early.length ? early[state] : FAR;
+        }
+
+        private int turnedAt(int state) {
+            return state >= 0 && state < turned.length ? turned[state] : FAR;
+        }
+
         private void lookAhead(int s) {
             for (int k = 0; k < listedEvents && k < events.length; k++) {
-                ahead[s % RING][events[k]] = s == 0 ? 0 : fewestTurned(events[k], s);
+                int at = placeAhead(s, events[k]);
+                if (at >= 0 && at < ahead.length) {
+                    ahead[at] = s == 0 ? 0 : fewestTurned(events[k], s);
+                }
             }
+        }
+
+        /** Where a span has its answer for a STATE; only the last few spans looked at have theirs still. */
+        private int placeAhead(int s, int state) {
+            return state * RING + s % RING;
+        }
+
+        private int aheadAt(int s, int state) {
+            int at = placeAhead(s, state);
+            return at >= 0 && at < ahead.length ? ahead[at] : FAR;
         }
 
         /** The fewest turned from a STATE on, so that an EVENT comes just s later; FAR: none can. */
         private int fewestTurned(int state, int s) {
             int least = FAR;
             for (int choice = 0; choice < 1 << number; choice++) {
-                int next = leap[state * CHOICES + choice];
+                int next = leapBy(state, choice);
                 if (next == NONE || next % MOMENTS > s) {
                     continue;
                 }
-                int then = ahead[(s - next % MOMENTS) % RING][next / MOMENTS];
+                int then = aheadAt(s - next % MOMENTS, next / MOMENTS);
                 if (then < FAR) {
                     least = Math.min(least, then + Integer.bitCount(choice));
                 }
@@ -846,19 +882,21 @@ public final class JugsAndGlasses {
             int least = FAR;
             int sum = FAR;
             for (int k = 0; k < listedEvents && k < events.length; k++) {
-                int state = events[k];
-                int then = ahead[s % RING][state];
-                if (then == FAR || early[state] > LATEST_WAIT || early[state] > least) {
+                int then = aheadAt(s, events[k]);
+                int time = earlyAt(events[k]);
+                if (then == FAR || time > LATEST_WAIT || time > least) {
                     continue;
                 }
-                if (early[state] < least) {
-                    least = early[state];
+                if (time < least) {
+                    least = time;
                     sum = FAR;
                 }
-                sum = Math.min(sum, turned[state] + then);
+                sum = Math.min(sum, turnedAt(events[k]) + then);
             }
-            waitOf[s] = least == FAR ? NONE : least;
-            turnsOf[s] = least == FAR ? NONE : sum;
+            if (s >= 0 && s <= MOST_WAITED_FOR) {
+                waitOf[s] = least == FAR ? NONE : least;
+                turnsOf[s] = least == FAR ? NONE : sum;
+            }
         }
     }
 }

@@ -7,7 +7,9 @@ import java.nio.file.Files;
 import java.nio.file.Path;
 import java.util.ArrayList;
 import java.util.List;
+import java.util.Map;
 import java.util.Set;
+import java.util.TreeMap;
 import java.util.TreeSet;
 import java.util.regex.Matcher;
 import java.util.regex.Pattern;
@@ -21,11 +23,15 @@ public final class FaceTests {
         "int sparing(int,int,int)", "int spare(int,int,int)", "int makes()", "int reaches()", "int road(int,int)",
         "int sizes(int,int,int)", "int glass(int)", "int smash()", "int await(int)", "int turns(int)",
         "long spans(int)", "int count(int)");
+    /** A method begins at a line that ends with ") {" at the depth of a class's members. */
+    private static final Pattern METHOD = Pattern.compile(
+        "^(    |        )(?:public |private |static |final )*(?:[\\w\\[\\]]+ )?(\\w+)\\([^)]*\\) \\{$");
 
     public static void main(String[] args) throws IOException {
         face();
         insideClasses();
-        source(Files.readString(Path.of(System.getProperty("jug.main", "src/main/java/JugsAndGlasses.java"))));
+        Path home = Path.of(System.getProperty("jug.home", "."));
+        source(Files.readString(home.resolve("src/main/java/JugsAndGlasses.java")));
         DUE.end();
     }
 
@@ -102,23 +108,79 @@ public final class FaceTests {
             DUE.holds("import " + m.group(1), m.group(1).equals("java.util.Arrays"));
         }
         DUE.holds("signs 0 to 127", text.chars().allMatch(sign -> sign < 128));
+        library(code);
         shortMethods(code);
+        callsInside(code);
     }
 
-    /** A method begins at a line that ends with ") {" at the depth of a class's members. */
-    private static void shortMethods(String code) {
+    /** What begins with a capital is a constant, a class of the file, or of the library and allowed. */
+    private static void library(String code) {
+        Set<String> own = new TreeSet<>(Set.of("JugsAndGlasses"));
+        for (Class<?> inside : JugsAndGlasses.class.getDeclaredClasses()) {
+            own.add(inside.getSimpleName());
+        }
+        for (Matcher m = Pattern.compile("\\b([A-Z]\\w*[a-z]\\w*)(\\.\\w+\\()?").matcher(code); m.find(); ) {
+            String called = m.group(1) + (m.group(2) == null ? "" : m.group(2));
+            DUE.holds(called + " is allowed", own.contains(m.group(1)) || called.equals("Arrays")
+                || Set.of("Arrays.fill(", "Math.min(", "Math.max(", "Integer.bitCount(").contains(called));
+        }
+        for (Matcher m = Pattern.compile("\\b(double|float|while|do|instanceof|enum|interface)\\b").matcher(code); m.find(); ) {
+            DUE.holds("no " + m.group(1) + " was needed", false);
+        }
+    }
+
+    /** By the names of methods: no call leads back to itself, and calls go at most eight deep. */
+    private static void callsInside(String code) {
+        Map<String, Set<String>> calls = new TreeMap<>();
         String[] lines = code.split("\n");
         for (int k = 0; k < lines.length; k++) {
-            Matcher m = Pattern.compile("^(    |        )(public|private|int|long|void|boolean|[A-Z]\\w*)\\b.*\\) \\{$")
-                .matcher(lines[k]);
-            if (!m.find()) {
-                continue;
+            Matcher m = METHOD.matcher(lines[k]);
+            if (m.find()) {
+                Set<String> called = calls.computeIfAbsent(m.group(2), name -> new TreeSet<>());
+                for (int n = k + 1; n <= endOf(lines, k, m.group(1)); n++) {
+                    for (Matcher call = Pattern.compile("\\b([a-z]\\w*)\\(").matcher(lines[n]); call.find(); ) {
+                        called.add(call.group(1));
+                    }
+                }
             }
-            int end = k;
-            while (end < lines.length - 1 && !lines[end].equals(m.group(1) + "}")) {
-                end++;
-            }
-            DUE.holds(lines[k].trim() + " is short", end - k < 60);
         }
+        for (String sign : FACE) {
+            String name = sign.substring(sign.indexOf(' ') + 1, sign.indexOf('('));
+            DUE.holds(name + " is found in the source", calls.containsKey(name));
+            int depth = depth(calls, name, 1);
+            DUE.holds("calls of " + name + " go " + depth + " deep", depth <= 8);
+        }
+    }
+
+    private static int depth(Map<String, Set<String>> calls, String name, int above) {
+        int most = above;
+        if (above > 8 || !calls.containsKey(name)) {
+            return most;
+        }
+        for (String called : calls.get(name)) {
+            most = Math.max(most, depth(calls, called, above + 1));
+        }
+        return most;
+    }
+
+    private static int endOf(String[] lines, int begin, String indent) {
+        int end = begin;
+        while (end < lines.length - 1 && !lines[end].equals(indent + "}")) {
+            end++;
+        }
+        return end;
+    }
+
+    private static void shortMethods(String code) {
+        String[] lines = code.split("\n");
+        int methods = 0;
+        for (int k = 0; k < lines.length; k++) {
+            Matcher m = METHOD.matcher(lines[k]);
+            if (m.find()) {
+                methods++;
+                DUE.holds(lines[k].trim() + " is short", endOf(lines, k, m.group(1)) - k < 60);
+            }
+        }
+        DUE.holds("methods were found", methods > FACE.size());
     }
 }

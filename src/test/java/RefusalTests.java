@@ -4,7 +4,8 @@ import java.util.List;
 /**
  * Behind a refused call, and behind a question, all answers are as they were; behind a change, they are
  * the same whether questions were asked ahead of it or not. Objects are made by the same calls twice;
- * one is refused or asked something, and then both are asked for everything.
+ * one is refused or asked something, and then both are asked for everything. Objects that are used in turns
+ * know nothing of one another.
  */
 public final class RefusalTests {
     private static final Due DUE = new Due();
@@ -32,6 +33,9 @@ public final class RefusalTests {
             questions(maker);
             changesBehindQuestions(maker);
             last(maker);
+            for (int other = 0; other < MAKERS.length; other++) {
+                sideBySide(maker, other);
+            }
         }
         DUE.end();
     }
@@ -155,6 +159,28 @@ public final class RefusalTests {
             }
         }
         DUE.holds("there were changes", changes > 5);
+    }
+
+    /** Two objects that are made and asked in turns answer as each does alone. */
+    private static void sideBySide(int maker, int other) {
+        JugsAndGlasses x = new JugsAndGlasses();
+        JugsAndGlasses y = new JugsAndGlasses();
+        for (int k = 0; k < MAKERS[maker].length || k < MAKERS[other].length; k++) {
+            makeOne(x, maker, k);
+            makeOne(y, other, k);
+            warmUp(x);
+            warmUp(y);
+        }
+        String told = "objects " + maker + " and " + other + " side by side";
+        compare(told + ", the first", all(x, 50), all(make(maker), 0));
+        compare(told + ", the second", all(y, 50), all(make(other), 0));
+    }
+
+    private static void makeOne(JugsAndGlasses x, int maker, int k) {
+        if (k < MAKERS[maker].length) {
+            int[] made = MAKERS[maker][k];
+            DUE.holds("made in turns", Calls.ask(x, call(made[0], made[1], made[2])) >= 0);
+        }
     }
 
     /** Refused calls up to the 511th; the 512th is answered as ever. */
