@@ -8,6 +8,9 @@ public final class GlassEdgeTests {
         promise17Spans();
         promise17ThreeAtMost();
         promise18Smash();
+        for (int row = 0; row < 8; row++) {
+            promise18SetAfterSet(row);
+        }
         promises19To21Bounds();
         promises19To21OneGlass();
         promises19And20WhatIsTurned();
@@ -81,6 +84,27 @@ public final class GlassEdgeTests {
             DUE.is("18: the new one alone", x.spans(60), 1L << 9 | 1L << 18 | 1L << 27 | 1L << 36);
             DUE.is("18: the tap is as it was", x.set(0, true), n % 2 == 0 ? 1 : 0);
             DUE.is("18: the drain is as it was", x.set(1, true), n > 1 ? 1 : 0);
+        }
+    }
+
+    /** One object that has set after set of glasses answers of each as a new one does. */
+    private static void promise18SetAfterSet(int row) {
+        JugsAndGlasses x = new JugsAndGlasses();
+        for (int k = 0; k < 38; k++) {
+            int[] all = {12 - (k + row) % 5, 1 + (5 * k + row) % 12, 1 + (7 * k + 3 * row) % 12};
+            int[] set = java.util.Arrays.copyOf(all, row < 4 ? 3 : 3 - k % 4);
+            JugsAndGlasses y = Made.glasses(set);
+            for (int span : set) {
+                DUE.holds("18: glass", x.glass(span) >= 0);
+            }
+            String told = "18: set " + k + " of row " + row + ", ";
+            for (int w : new int[] {0, 11, 60}) {
+                DUE.is(told + "spans(" + w + ")", x.spans(w), y.spans(w));
+            }
+            for (int s = 1 + k % 8; s <= 40; s += 8) {
+                DUE.is(told + "turns(" + s + ")", x.turns(s), y.turns(s));
+            }
+            DUE.is(told + "smash()", x.smash(), set.length);
         }
     }
 

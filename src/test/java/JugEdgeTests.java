@@ -20,6 +20,9 @@ public final class JugEdgeTests {
         promise6Pour();
         promise6BadGoesAheadOfNot();
         promise7Clear();
+        for (int row = 0; row < 8; row++) {
+            promise7SetAfterSet(row);
+        }
         DUE.end();
     }
 
@@ -336,6 +339,31 @@ public final class JugEdgeTests {
             DUE.is("7: the tap is as it was", x.set(0, true), n % 2 == 0 ? 1 : 0);
             DUE.is("7: the drain is as it was", x.set(1, true), n > 1 ? 1 : 0);
             DUE.is("7: the new one alone", x.makes(), 7);
+        }
+    }
+
+    /** One object that has set after set of jugs, small ones and large ones, answers of each as a new one does. */
+    private static void promise7SetAfterSet(int row) {
+        JugsAndGlasses x = new JugsAndGlasses();
+        for (int k = 0; k < 32; k++) {
+            int[] all = {1 + (3 * k + row) % 10, 1 + (7 * k + row) % 10, 10 - (k + row) % 4, 1 + (k * k + row) % 10};
+            int[] set = java.util.Arrays.copyOf(all, 4 - (k * (row % 3)) % 5);
+            JugsAndGlasses y = new JugsAndGlasses();
+            for (int size : set) {
+                DUE.is("7: jug", x.jug(size, k % 3 == 0 ? size / 2 : 0), y.jug(size, k % 3 == 0 ? size / 2 : 0));
+            }
+            String told = "7: set " + k + " of row " + row + ", ";
+            int v = 1 + k % 10;
+            DUE.is(told + "rows", x.rows(-1, v), y.rows(-1, v));
+            DUE.is(told + "fewest", x.fewest(-1, v), y.fewest(-1, v));
+            DUE.is(told + "best", x.best(-1, v, 2), y.best(-1, v, 2));
+            DUE.is(told + "spilt", x.sparing(-1, v, 0), y.sparing(-1, v, 0));
+            DUE.is(told + "acts", x.sparing(-1, v, 1), y.sparing(-1, v, 1));
+            DUE.is(told + "spare", x.spare(-1, v, 2), y.spare(-1, v, 2));
+            DUE.is(told + "acts now", x.count(3), y.count(3));
+            DUE.is(told + "makes", x.makes(), y.makes());
+            DUE.is(told + "reaches", x.reaches(), y.reaches());
+            DUE.is(told + "clear", x.clear(), set.length);
         }
     }
 }

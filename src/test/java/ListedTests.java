@@ -145,14 +145,14 @@ public final class ListedTests {
         return Made.with(jugs.tap, jugs.drain, Made.holding(jugs.size, held));
     }
 
-    /** Each aim's answers; an object for each i, as one would be asked more than 512 calls. */
+    /** Each aim's answers; an object for each, as one for all would be asked more than 512 calls. */
     private static void compare(Jugs jugs, int[] held, int mostActs) {
         RowList list = new RowList(jugs, held, mostActs);
         String told = Arrays.toString(jugs.size) + " with " + Arrays.toString(held)
             + (jugs.tap ? ", tap" : "") + (jugs.drain ? ", drain" : "");
         for (int i = -1; i < jugs.size.length; i++) {
-            JugsAndGlasses x = make(jugs, held);
             for (int v = 0; v <= 10; v++) {
+                JugsAndGlasses x = make(jugs, held);
                 String aim = told + ", (" + i + ", " + v + ")";
                 compareFewest(aim, x, i, v, list);
                 if (mostActs == ALL) {
