@@ -8,12 +8,18 @@ public final class RoomTests {
 
     public static void main(String[] args) {
         DUE.is("warm up", dearRun(), dearRun());
+        DUE.is("warm up", growingRun(), growingRun());
         long before = allocated();
         dearRun();
         long bytes = allocated() - before;
         System.out.println("a dear run makes " + bytes + " bytes");
         // The room holds 7.3 million elements; a run that makes rows anew in each call would pass this by far.
         DUE.holds("a dear run makes at most 3000000 bytes", bytes > 0 && bytes <= 3000000);
+        before = allocated();
+        growingRun();
+        bytes = allocated() - before;
+        System.out.println("a growing run makes " + bytes + " bytes");
+        DUE.holds("a growing run makes at most 3000000 bytes", bytes > 0 && bytes <= 3000000);
         before = allocated();
         JugsAndGlasses[] many = new JugsAndGlasses[CALLS];
         for (int k = 0; k < CALLS; k++) {
@@ -49,6 +55,28 @@ public final class RoomTests {
             x.glass(1 + k % 12);
             x.glass(1 + k / 12 % 12);
             sum += x.turns(1 + k % 40);
+        }
+        return sum;
+    }
+
+    /** Each set of jugs, and of glasses, has a little more ways to hold than the one before it. */
+    private static long growingRun() {
+        JugsAndGlasses x = new JugsAndGlasses();
+        long sum = 0;
+        for (int full = 0; full < 4; full++) {
+            for (int size = 1; size <= 10; size++) {
+                x.clear();
+                for (int i = 0; i < full; i++) {
+                    x.jug(10, 5);
+                }
+                x.jug(size, size / 2);
+                sum += x.rows(-1, 1) + x.sparing(-1, 1, 0);
+                x.smash();
+                for (int i = 0; i < full; i++) {
+                    x.glass(12 - i);
+                }
+                sum += x.await(size);
+            }
         }
         return sum;
     }
